@@ -245,14 +245,14 @@ public final class SignOnHouse {
 
     private boolean servesAsWitness(int person, int role) {
         // A role that is denied elsewhere does not hinder: a witness needs a grant in some group, no more.
-        return !isBarred(person) && groups.grant(person, role);
+        return !isBarred(person) && groups.anyGrants(person, role);
     }
 
     private int answerOfHouse(int person, int role) {
         if (isBarred(person)) {
             return REFUSED;
         }
-        boolean byGroups = groups.grant(person, role) && !groups.deny(person, role);
+        boolean byGroups = groups.anyGrants(person, role) && !groups.anyDenies(person, role);
         return byGroups || holdsGlass(person, role) ? LET_IN : REFUSED;
     }
 
@@ -311,11 +311,11 @@ public final class SignOnHouse {
             return contains(allAround(homesOfGroup[group]), outer);
         }
 
-        boolean grant(int person, int role) {
+        boolean anyGrants(int person, int role) {
             return (allAround(homesOfPerson[person]) & grantedOfRole[role]) != 0;
         }
 
-        boolean deny(int person, int role) {
+        boolean anyDenies(int person, int role) {
             return (allAround(homesOfPerson[person]) & deniedOfRole[role]) != 0;
         }
 
