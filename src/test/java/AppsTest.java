@@ -17,7 +17,6 @@ public final class AppsTest {
         forget();
         stale();
         staleOfTheBarredAndOfGlass();
-        wrongInputs();
         Due.end();
     }
 
@@ -31,17 +30,6 @@ public final class AppsTest {
         house.open(1);
         house.open(1);
         house.close(3);
-        return house;
-    }
-
-    private static SignOnHouse keeping() {
-        SignOnHouse house = staffed();
-        house.decide(0, 0, 0);
-        house.decide(0, 0, 1);
-        house.decide(3, 2, 5);
-        house.setRole(0, 1, 1);
-        house.setCache(3, 60);
-        house.pass(4);
         return house;
     }
 
@@ -267,29 +255,5 @@ public final class AppsTest {
         Due.is("19: while it holds", house.stale(0), 0);
         house.pass(1);
         Due.is("19: when it has ended", house.stale(0), 1);
-    }
-
-    private static void wrongInputs() {
-        for (int number : new int[] {-1, 4, Integer.MIN_VALUE, Integer.MAX_VALUE}) {
-            Due.isThrown("16: app " + number, Due.ARGUMENT, AppsTest::keeping, h -> h.setCache(number, 0));
-            Due.isThrown("17: app " + number, Due.ARGUMENT, AppsTest::keeping, h -> h.decide(number, 0, 0));
-            Due.isThrown("17: app first " + number, Due.ARGUMENT, AppsTest::keeping, h -> h.decide(number, 9, 0));
-            Due.isThrown("18: app " + number, Due.ARGUMENT, AppsTest::keeping, h -> h.forget(number, 0));
-            Due.isThrown("19: app " + number, Due.ARGUMENT, AppsTest::keeping, h -> h.stale(number));
-        }
-        for (int number : new int[] {-1, 61, Integer.MIN_VALUE, Integer.MAX_VALUE}) {
-            Due.isThrown("16: minutes " + number, Due.ARGUMENT, AppsTest::keeping, h -> h.setCache(0, number));
-        }
-        for (int number : new int[] {-1, 6, Integer.MIN_VALUE, Integer.MAX_VALUE}) {
-            Due.isThrown("17: role " + number, Due.ARGUMENT, AppsTest::keeping, h -> h.decide(0, 0, number));
-            Due.isThrown("17: role first " + number, Due.ARGUMENT, AppsTest::keeping, h -> h.decide(0, -1, number));
-            Due.isThrown("17: role though over " + number, Due.ARGUMENT, AppsTest::keeping, h -> h.decide(0, 3, number));
-        }
-        for (int number : new int[] {-1, 4, 30, Integer.MIN_VALUE, Integer.MAX_VALUE}) {
-            Due.isThrown("17: session " + number, Due.INDEX, AppsTest::keeping, h -> h.decide(0, number, 0));
-        }
-        for (int number : new int[] {-1, 10, Integer.MIN_VALUE, Integer.MAX_VALUE}) {
-            Due.isThrown("18: person " + number, Due.ARGUMENT, AppsTest::keeping, h -> h.forget(0, number));
-        }
     }
 }

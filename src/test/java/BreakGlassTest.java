@@ -8,7 +8,6 @@ public final class BreakGlassTest {
         isNothingForTheBarred();
         needsTwoWitnesses();
         needsNotTheWitnessesLater();
-        wrongInputs();
         Due.end();
     }
 
@@ -121,24 +120,5 @@ public final class BreakGlassTest {
         house.setRisk(1, 3);
         house.setPerson(0, 2, false);
         Due.is("15: it holds all the same", house.allows(0, 0), true);
-    }
-
-    private static void wrongInputs() {
-        for (int number : new int[] {-1, 10, Integer.MIN_VALUE, Integer.MAX_VALUE}) {
-            Due.isThrown("15: person " + number, Due.ARGUMENT, BreakGlassTest::staffed, h -> h.breakGlass(number, 0, 1, 2));
-            Due.isThrown("15: one " + number, Due.ARGUMENT, BreakGlassTest::staffed, h -> h.breakGlass(0, 0, number, 2));
-            Due.isThrown("15: other " + number, Due.ARGUMENT, BreakGlassTest::staffed, h -> h.breakGlass(0, 0, 1, number));
-        }
-        for (int number : new int[] {-1, 6, Integer.MIN_VALUE, Integer.MAX_VALUE}) {
-            Due.isThrown("15: role " + number, Due.ARGUMENT, BreakGlassTest::staffed, h -> h.breakGlass(0, number, 1, 2));
-        }
-        Due.isThrown("15: one's own", Due.ARGUMENT, BreakGlassTest::staffed, h -> h.breakGlass(1, 0, 1, 2));
-        Due.isThrown("15: one's own as other", Due.ARGUMENT, BreakGlassTest::staffed, h -> h.breakGlass(2, 0, 1, 2));
-        Due.isThrown("15: one witness twice", Due.ARGUMENT, BreakGlassTest::staffed, h -> h.breakGlass(0, 0, 1, 1));
-        Due.isThrown("15: the argument first", Due.ARGUMENT, BreakGlassTest::staffed, h -> h.breakGlass(0, 0, 3, 3));
-        Due.isThrown("15: barred", Due.STATE, BreakGlassTest::staffed, h -> h.breakGlass(0, 0, 1, 4));
-        Due.isThrown("15: barred first", Due.STATE, BreakGlassTest::staffed, h -> h.breakGlass(0, 0, 4, 1));
-        Due.isThrown("15: of another role", Due.STATE, BreakGlassTest::staffed, h -> h.breakGlass(0, 0, 1, 5));
-        Due.isThrown("15: none serves", Due.STATE, BreakGlassTest::staffed, h -> h.breakGlass(0, 5, 1, 2));
     }
 }

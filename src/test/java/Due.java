@@ -1,4 +1,5 @@
 import java.util.function.Consumer;
+import java.util.function.IntSupplier;
 import java.util.function.Supplier;
 
 /** What the tests share: each answer is compared with the one that is due, and a failure is counted. */
@@ -42,7 +43,13 @@ final class Due {
     static void isThrown(String what, String want, Supplier<SignOnHouse> made, Consumer<SignOnHouse> call) {
         SignOnHouse called = made.get();
         same(what + " throws", nameOfThrown(() -> call.accept(called)), want);
-        same(what + " changes nothing", Sight.of(called), Sight.of(made.get()));
+        same(what + " changes nothing", Sight.of(() -> called(made, call)), Sight.of(made));
+    }
+
+    private static SignOnHouse called(Supplier<SignOnHouse> made, Consumer<SignOnHouse> call) {
+        SignOnHouse house = made.get();
+        nameOfThrown(() -> call.accept(house));
+        return house;
     }
 
     static String nameOfThrown(Runnable call) {
@@ -51,6 +58,15 @@ final class Due {
             return NOTHING;
         } catch (RuntimeException e) {
             return e.getClass().getSimpleName();
+        }
+    }
+
+    /** The number that the call answers, or throws. and the name of what it throws. */
+    static String answer(IntSupplier call) {
+        try {
+            return Integer.toString(call.getAsInt());
+        } catch (RuntimeException e) {
+            return "throws." + e.getClass().getSimpleName();
         }
     }
 

@@ -1,6 +1,7 @@
 import java.util.ArrayList;
 import java.util.List;
 import java.util.Random;
+import java.util.function.IntSupplier;
 
 /**
  * Long runs of calls, good and wrong ones mixed, on a house and on a model of it, answer for answer.
@@ -163,21 +164,9 @@ public final class ModelTest {
             }
         }
 
-        private static void same(String name, Call got, Call want) {
-            Due.same(name, answer(got), answer(want));
+        private static void same(String name, IntSupplier got, IntSupplier want) {
+            Due.same(name, Due.answer(got), Due.answer(want));
         }
-
-        private static String answer(Call call) {
-            try {
-                return Integer.toString(call.run());
-            } catch (RuntimeException e) {
-                return "throws." + e.getClass().getSimpleName();
-            }
-        }
-    }
-
-    private interface Call {
-        int run();
     }
 
     /** A session of the model. */

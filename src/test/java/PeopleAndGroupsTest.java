@@ -12,26 +12,7 @@ public final class PeopleAndGroupsTest {
         isIn();
         allows();
         allowsOverGroups();
-        wrongInputs();
-        groupInItself();
         Due.end();
-    }
-
-    /** A house in which something of all kinds stands. */
-    private static SignOnHouse busy() {
-        SignOnHouse house = new SignOnHouse();
-        house.setGroup(0, 1, true);
-        house.setGroup(1, 2, true);
-        house.setPerson(2, 3, true);
-        house.setPerson(7, 9, true);
-        house.setRole(0, 4, 1);
-        house.setRole(7, 5, 2);
-        house.open(3);
-        house.open(9);
-        house.setRisk(4, 1);
-        house.decide(0, 0, 4);
-        house.pass(3);
-        return house;
     }
 
     private static void newObject() {
@@ -251,43 +232,5 @@ public final class PeopleAndGroupsTest {
         Due.is("7: which is not of the outer one's people", house.allows(3, 5), true);
         house.setGroup(0, 1, false);
         Due.is("7: no way to the grant or the denial", house.allows(2, 4), true);
-    }
-
-    private static void wrongInputs() {
-        for (int number : new int[] {-1, 8, Integer.MIN_VALUE, Integer.MAX_VALUE}) {
-            Due.isThrown("2: group " + number, Due.ARGUMENT, PeopleAndGroupsTest::busy, h -> h.setPerson(number, 0, true));
-            Due.isThrown("3: group " + number, Due.ARGUMENT, PeopleAndGroupsTest::busy, h -> h.setGroup(number, 0, true));
-            Due.isThrown("3: inner " + number, Due.ARGUMENT, PeopleAndGroupsTest::busy, h -> h.setGroup(0, number, true));
-            Due.isThrown("3: both " + number, Due.ARGUMENT, PeopleAndGroupsTest::busy, h -> h.setGroup(number, number, false));
-            Due.isThrown("4: group " + number, Due.ARGUMENT, PeopleAndGroupsTest::busy, h -> h.setRole(number, 0, 1));
-            Due.isThrown("6: group " + number, Due.ARGUMENT, PeopleAndGroupsTest::busy, h -> h.isIn(number, 0));
-        }
-        for (int number : new int[] {-1, 10, Integer.MIN_VALUE, Integer.MAX_VALUE}) {
-            Due.isThrown("2: person " + number, Due.ARGUMENT, PeopleAndGroupsTest::busy, h -> h.setPerson(0, number, true));
-            Due.isThrown("5: person " + number, Due.ARGUMENT, PeopleAndGroupsTest::busy, h -> h.setRisk(number, 3));
-            Due.isThrown("6: person " + number, Due.ARGUMENT, PeopleAndGroupsTest::busy, h -> h.isIn(0, number));
-            Due.isThrown("7: person " + number, Due.ARGUMENT, PeopleAndGroupsTest::busy, h -> h.allows(number, 0));
-        }
-        for (int number : new int[] {-1, 6, Integer.MIN_VALUE, Integer.MAX_VALUE}) {
-            Due.isThrown("4: role " + number, Due.ARGUMENT, PeopleAndGroupsTest::busy, h -> h.setRole(0, number, 1));
-            Due.isThrown("7: role " + number, Due.ARGUMENT, PeopleAndGroupsTest::busy, h -> h.allows(0, number));
-        }
-        for (int number : new int[] {-1, 3, Integer.MIN_VALUE, Integer.MAX_VALUE}) {
-            Due.isThrown("4: what " + number, Due.ARGUMENT, PeopleAndGroupsTest::busy, h -> h.setRole(0, 4, number));
-        }
-        for (int number : new int[] {-1, 4, Integer.MIN_VALUE, Integer.MAX_VALUE}) {
-            Due.isThrown("5: risk " + number, Due.ARGUMENT, PeopleAndGroupsTest::busy, h -> h.setRisk(3, number));
-        }
-    }
-
-    private static void groupInItself() {
-        for (int group = 0; group < 8; group++) {
-            int same = group;
-            Due.isThrown("3: the same, is", Due.ARGUMENT, PeopleAndGroupsTest::busy, h -> h.setGroup(same, same, true));
-            Due.isThrown("3: the same, is not", Due.ARGUMENT, PeopleAndGroupsTest::busy, h -> h.setGroup(same, same, false));
-        }
-        Due.isThrown("3: a ring of two", Due.STATE, PeopleAndGroupsTest::busy, h -> h.setGroup(1, 0, true));
-        Due.isThrown("3: a ring of three", Due.STATE, PeopleAndGroupsTest::busy, h -> h.setGroup(2, 0, true));
-        Due.same("3: a short cut is no ring", Due.nameOfThrown(() -> busy().setGroup(0, 2, true)), Due.NOTHING);
     }
 }

@@ -12,23 +12,7 @@ public final class SessionsAndKeysTest {
         isTaken();
         pass();
         now();
-        wrongInputs();
         Due.end();
-    }
-
-    /** Session 0 goes on, session 1 is closed; person 2 is barred; the key 0 is taken beside the key 1. */
-    private static SignOnHouse busy() {
-        SignOnHouse house = new SignOnHouse();
-        house.setPerson(0, 0, true);
-        house.setRole(0, 0, 1);
-        house.setRisk(2, 3);
-        house.open(0);
-        house.open(1);
-        house.pass(4);
-        house.close(1);
-        house.changeKeys(10);
-        house.decide(0, 0, 0);
-        return house;
     }
 
     private static SignOnHouse full() {
@@ -234,30 +218,5 @@ public final class SessionsAndKeysTest {
             house.pass(300);
         }
         Due.is("14: far on", house.now(), 301 + 400 * 300);
-    }
-
-    private static void wrongInputs() {
-        for (int number : new int[] {-1, 10, Integer.MIN_VALUE, Integer.MAX_VALUE}) {
-            Due.isThrown("8: person " + number, Due.ARGUMENT, SessionsAndKeysTest::busy, h -> h.open(number));
-            Due.isThrown("8: person first " + number, Due.ARGUMENT, SessionsAndKeysTest::full, h -> h.open(number));
-        }
-        Due.isThrown("8: barred", Due.STATE, SessionsAndKeysTest::busy, h -> h.open(2));
-        Due.isThrown("8: full", Due.STATE, SessionsAndKeysTest::full, h -> h.open(0));
-        Due.isThrown("8: full and barred", Due.STATE, SessionsAndKeysTest::full, h -> h.open(2));
-        for (int number : new int[] {-1, 2, 30, Integer.MIN_VALUE, Integer.MAX_VALUE}) {
-            Due.isThrown("9: session " + number, Due.INDEX, SessionsAndKeysTest::busy, h -> h.close(number));
-            Due.isThrown("10: session " + number, Due.INDEX, SessionsAndKeysTest::busy, h -> h.goesOn(number));
-        }
-        Due.isThrown("9: over", Due.STATE, SessionsAndKeysTest::busy, h -> h.close(1));
-        Due.isThrown("9: session 30 of 30", Due.INDEX, SessionsAndKeysTest::full, h -> h.close(30));
-        for (int number : new int[] {-1, 301, Integer.MIN_VALUE, Integer.MAX_VALUE}) {
-            Due.isThrown("11: minutes " + number, Due.ARGUMENT, SessionsAndKeysTest::busy, h -> h.changeKeys(number));
-        }
-        for (int number : new int[] {-1, 2, Integer.MIN_VALUE, Integer.MAX_VALUE}) {
-            Due.isThrown("12: key " + number, Due.ARGUMENT, SessionsAndKeysTest::busy, h -> h.isTaken(number));
-        }
-        for (int number : new int[] {0, -1, 301, Integer.MIN_VALUE, Integer.MAX_VALUE}) {
-            Due.isThrown("13: minutes " + number, Due.ARGUMENT, SessionsAndKeysTest::busy, h -> h.pass(number));
-        }
     }
 }
