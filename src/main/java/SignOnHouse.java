@@ -329,8 +329,8 @@ public final class SignOnHouse {
         /** The groups of a set and all groups that one of them is in, directly or over others. */
         private int allAround(int set) {
             int all = set;
-            // No group is in itself, so the longest chain has as many links as there are groups.
-            for (int link = 0; link < GROUPS; link++) {
+            // No group is in itself, so the longest chain has a link less than there are groups.
+            for (int link = 1; link < GROUPS; link++) {
                 all = oneLinkFurther(all);
             }
             return all;
